@@ -26,6 +26,7 @@ public final class PromisesTest {
         t.moves();
         t.move();
         t.go();
+        t.goHome();
         t.goOil();
         t.goFull();
         t.chance();
@@ -175,6 +176,8 @@ public final class PromisesTest {
         due("4 blanks", Check.tell(x, "   board   5   2  ;;".replace(";;", ";") + "   "), 1);
         due("4 the last one", x.piece(1, 2), 9);
         due("4 no blanks", Check.tell(x, "board2 3;turn1;steeple03;"), 3);
+        due("4 all lines again", Check.tell(x, "odds 1 2 3 4 5;board 2 2;turn 1;"), 3);
+        due("4 all lines again", Check.tell(x, "turn 1;board2 3;odds 1 2 3 4 5;steeple 3;"), 4);
         due("4 high", x.rule(1), 3);
         due("4 steeple", x.rule(3), 8);
         due("4 kings alone", Check.tell(x, "piece king 1 0 1;piece king 0 1 1;"), 2);
@@ -227,6 +230,20 @@ public final class PromisesTest {
         faultOf("12", 2, 0);
         faultOf("turn 1;;", 2, 7);
         faultOf("boards 2 2;", 2, 0);
+        faultOf("hoard 2 2;", 2, 0);
+        faultOf("boare 2 2;", 2, 0);
+        faultOf("piece ring 0 0 0;", 2, 6);
+        faultOf("piece kin 0 0 0;", 2, 6);
+        faultOf("a", 2, 0);
+        faultOf("z", 2, 0);
+        faultOf("`", 1, 0);
+        faultOf("{", 1, 0);
+        faultOf("/", 1, 0);
+        faultOf(":", 1, 0);
+        faultOf("<", 1, 0);
+        faultOf("09", 2, 0);
+        faultOf("90", 2, 0);
+        faultOf("az!", 2, 0);
         faultOf(" king 0 0 0;", 2, 1);
         faultOf("piece lord 0 0 0;", 2, 6);
         faultOf("piece 0 0 0;", 2, 6);
@@ -463,6 +480,12 @@ public final class PromisesTest {
         list("16 sparrow at the edge", x, 0, 100);
         list("16 sparrow at the edge", x, 2, 18, 110);
         list("16 sparrow at the edge", x, 3, 2, 12);
+        x = told("board 5 5;piece runner 0 10 1;piece king 0 20 1;piece king 1 12 1;piece runner 1 2 1;");
+        list("16 the other side's piece is an end", x, 1, 11, 12, 121);
+        x.turn(1);
+        list("16 so it is for the other side", x, 3, 211, 300, 301);
+        x.put(1, 7);
+        list("16 and to the south", x, 2, 217, 307);
     }
 
     // ---- 17
@@ -481,6 +504,7 @@ public final class PromisesTest {
         due("17 turn", x.rule(4), 1);
         due("17 turns", x.rule(5), 1);
         due("17 none by calm", x.go(4, NONE), NONE);
+        due("17 no piece moved", x.piece(0, 2), 14);
         due("17 nobody is TAKEN", x.go(3, 0), NONE);
         due("17 the other side's turn", x.turn(0), 1);
         x.put(3, 20);
@@ -492,6 +516,16 @@ public final class PromisesTest {
         due("17 over, no such move", x.go(0, 0), BAD);
         due("17 over, no such wind", x.go(5, NONE), BAD);
         due("17 turns", x.rule(5), 4);
+    }
+
+    /** PIECE 0 to SQUARE 0: a MOVE whose number by move() is 0. */
+    private void goHome() {
+        WeatherChess x = told("piece king 0 1 9;piece king 1 8 9;piece man 1 0 9;");
+        due("16 piece 0, square 0", x.move(3, 0), 0);
+        due("17 takes on square 0", x.go(3, 0), 2);
+        due("17 it is there", x.square(0), 0);
+        due("17 it is not here", x.square(1), NONE);
+        due("17 it moved, so that its oil stays", x.piece(0, 3), 9);
     }
 
     private void goOil() {
@@ -613,6 +647,7 @@ public final class PromisesTest {
         due("20 east in one, the first of several", x.best(1, 1), 0);
         due("20 east in two, the first of several", x.best(1, 2), 0);
         due("20 none by calm", x.best(4, 3), NONE);
+        for (int n = 1; n < 4; n++) due("20 the only one", new WeatherChess().best(1, n), 0);
         due("20 none", x.best(3, 3), NONE);
         for (int w : new int[] {-1, 5, FAR, DEEP}) due("20 bad", x.best(w, 1), BAD);
         for (int n : new int[] {-1, 0, 4, FAR, DEEP}) due("20 bad", x.best(0, n), BAD);
@@ -759,8 +794,16 @@ public final class PromisesTest {
         x.see(4, 0);
         due("25 it is not there", x.fits(2), 0);
         x.forget(0);
+        due("25 all is forgotten", x.fits(1), 5);
         x.see(0, 1);
         due("25 the other side is not there", x.fits(0), 0);
+        x.forget(0);
+        x.see(8, NONE);
+        due("25 somebody is there", x.fits(0), 0);
+        x.forget(0);
+        x.see(0, NONE);
+        x.see(1, 0);
+        due("25 one turn changes two squares", x.fits(1), 1);
         x.forget(0);
         x.see(0, 0);
         x.see(0, NONE);
@@ -855,6 +898,11 @@ public final class PromisesTest {
         blown("29 what is behind it stays", x, 1, 1, 3);
         x.turn(1);
         blown("29 of the other side", x, 1, 3, 3);
+        x.turn(0);
+        x.put(0, 4);
+        x.drop(0);
+        x.tell(4);
+        blown("29 north", x, 1, 0);
         x = over();
         due("29 over", x.blow(0), STATE);
         due("29 over, bad", x.blow(1), BAD);
@@ -889,7 +937,9 @@ public final class PromisesTest {
     private void gale() {
         WeatherChess x = told("piece king 0 4 9;piece king 1 0 9;");
         int[] odds = {1, 1, 1, 1, 1};
-        int[] seeds = {0, 1, 2, 3, 5, 8, 1000, -1, -77, FAR, DEEP, 123456789, -987654321};
+        // the later ones become numbers at the ends of bits 16 to 30: one more or less is another wind
+        int[] seeds = {0, 1, 2, 3, 5, 8, 1000, -1, -77, FAR, DEEP, 123456789, -404969853, -460866786, -750672253,
+            -806569186, -1096374653, -1152271586, -1861048701, -1916945634, 2088216195, 2032319262};
         for (int seed : seeds) due("30 wind of " + seed, firstWind(x, seed), windOf(seed, odds));
         odds = new int[] {3, 0, 5, 1, 9};
         for (int w = 0; w < 5; w++) x.weigh(w, odds[w]);
@@ -936,9 +986,11 @@ public final class PromisesTest {
         due("32 none", x.back(0), STATE);
         due("32 none", x.back(1), STATE);
         x.go(1, 0);
-        x.see(0, 0);
-        x.see(1, NONE);
+        x.see(1, 0);
+        x.see(2, NONE);
         x.tell(3);
+        x.tell(0);
+        x.tell(2);
         x.steeple(5, true);
         x.weigh(2, 7);
         x.keep(1);
@@ -947,7 +999,9 @@ public final class PromisesTest {
         x.put(1, 0);
         x.oil(0, 2);
         x.forget(0);
-        x.see(2, 1);
+        x.see(4, 1);
+        x.see(5, 0);
+        x.drop(0);
         x.tell(1);
         x.steeple(5, false);
         x.steeple(4, true);
@@ -961,8 +1015,11 @@ public final class PromisesTest {
         due("32 oil", x.piece(0, 3), 9);
         due("32 odds", x.odd(2), 7);
         due("32 seen", x.count(1), 2);
-        due("32 told", x.count(2), 1);
-        due("32 what was seen", x.fits(0), 0);
+        due("32 told", x.count(2), 3);
+        due("32 what was seen", x.fits(0), 1);
+        x.put(1, 4);
+        x.turn(0);
+        blown("32 what was told", x, 1, 2, 0, 2);
         due("32 sheets stay", x.count(5), 3);
         due("32 the tape stays", x.count(4), 4);
         due("32 again", x.back(1), 1);
