@@ -1,6 +1,9 @@
+import java.util.List;
+
 /** Counts the answers that are not as due, and ends a test with exit code 1 if there was one. */
 final class Check {
     private final String name;
+    private String sentence = "";
     private int asked = 0;
     private int wrong = 0;
 
@@ -8,15 +11,34 @@ final class Check {
         this.name = name;
     }
 
+    /** The sentence of the document that is asked from now on, told with every answer that is not as due. */
+    void says(String words) {
+        sentence = " \"" + words + "\":";
+    }
+
     void due(String call, long got, long want) {
         asked++;
-        if (got == want) return;
-        wrong++;
-        if (wrong <= 50) System.out.println(name + ": " + call + " answered " + got + ", due is " + want);
+        if (got != want) fault(call + " answered " + got + ", due is " + want);
     }
 
     void holds(String what, boolean is) {
         due(what, is ? 1 : 0, 1);
+    }
+
+    /** Two readouts that must be the same: the first place where they differ is told. */
+    void same(String what, List<String> got, List<String> want) {
+        asked++;
+        for (int i = 0; i < got.size() && i < want.size(); i++) {
+            if (got.get(i).equals(want.get(i))) continue;
+            fault(what + ": " + got.get(i) + ", due is " + want.get(i));
+            return;
+        }
+        if (got.size() != want.size()) fault(what + ": " + got.size() + " answers, due are " + want.size());
+    }
+
+    private void fault(String what) {
+        wrong++;
+        if (wrong <= 50) System.out.println(name + ":" + sentence + " " + what);
     }
 
     /** Feeds a text, as bytes 0 to 255, blanks behind it cut off again: what text() answers. */
@@ -34,6 +56,19 @@ final class Check {
             x.feed(v);
         }
         x.end(text.length());
+    }
+
+    /** A new object that has been told a text. */
+    static WeatherChess told(String text) {
+        WeatherChess x = new WeatherChess();
+        int lines = tell(x, text);
+        if (lines < 0) throw new IllegalStateException(text + " answered " + lines);
+        return x;
+    }
+
+    /** CELLS of a SHEET from the first one on. */
+    static void lay(WeatherChess x, int k, int... cells) {
+        for (int i = 0; i < cells.length; i++) x.lay(k, i, cells[i]);
     }
 
     void close() {
