@@ -60,10 +60,7 @@ public final class PromisesTest {
     }
 
     private static WeatherChess told(String text) {
-        WeatherChess x = new WeatherChess();
-        int lines = Check.tell(x, text);
-        if (lines < 0) throw new IllegalStateException(text + " answered " + lines);
-        return x;
+        return Check.told(text);
     }
 
     /** Side 1's king has been TAKEN by PIECE 0, after one TURN. */
@@ -548,17 +545,9 @@ public final class PromisesTest {
         due("17 one that is TAKEN keeps its oil", x.piece(1, 3), 6);
     }
 
-    private static void layCalms(WeatherChess x, int turns) {
-        x.sheet(0, 0, 40);
-        for (int i = 0; i < turns; i++) {
-            x.lay(0, 2 * i, 4);
-            x.lay(0, 2 * i + 1, NONE);
-        }
-    }
-
     private void goFull() {
         WeatherChess x = new WeatherChess();
-        layCalms(x, 13);
+        Ways.calms(x, 13);
         for (int i = 0; i < 76; i++) due("17 thirteen", x.read(0, 0, 0, 13), 13);
         due("35 the 1000th in a sheet", x.read(0, 0, 0, 12), -31);
         due("35 none goes", x.rule(5), 988);
@@ -942,7 +931,7 @@ public final class PromisesTest {
             -806569186, -1096374653, -1152271586, -1861048701, -1916945634, 2088216195, 2032319262};
         for (int seed : seeds) due("30 wind of " + seed, firstWind(x, seed), windOf(seed, odds));
         odds = new int[] {3, 0, 5, 1, 9};
-        for (int w = 0; w < 5; w++) x.weigh(w, odds[w]);
+        x = told("piece king 0 4 9;piece king 1 0 9;odds 3 0 5 1 9;");
         for (int seed : seeds) due("30 wind by odds of " + seed, firstWind(x, seed), windOf(seed, odds));
         for (int n : new int[] {-1, 0, 61, FAR, DEEP}) due("30 bad", x.gale(1, n, 0), BAD);
         for (int what : new int[] {-1, 2, FAR, DEEP}) due("30 bad", x.gale(1, 1, what), BAD);
@@ -1077,10 +1066,6 @@ public final class PromisesTest {
         due("34 shorts are longer", x.read(0, 1, 0, 1), -20);
     }
 
-    private static void layTurns(WeatherChess x, int k, int... cells) {
-        for (int i = 0; i < cells.length; i++) x.lay(k, i, cells[i]);
-    }
-
     // ---- 35
     private void read() {
         WeatherChess x = new WeatherChess();
@@ -1092,7 +1077,7 @@ public final class PromisesTest {
         due("35 nothing", x.read(0, 0, 0, 1), 0);
         due("35 NULL", x.torn(), 1);
         x.sheet(1, 1, 7);
-        layTurns(x, 1, 9, 1, 0, 2, 0, 4, NONE);
+        Check.lay(x, 1, 9, 1, 0, 2, 0, 4, NONE);
         due("35 another lane", x.read(1, 0, 1, 1), 0);
         due("35 CAST", x.torn(), 3);
         due("35 another lane of an index that there is not", x.read(1, 2, 99, 1), 0);
@@ -1110,7 +1095,7 @@ public final class PromisesTest {
         due("35 turns", x.rule(5), 2);
         x = new WeatherChess();
         x.sheet(1, 1, 7);
-        layTurns(x, 1, 9, 1, 0, 0, 0, 4, NONE);
+        Check.lay(x, 1, 9, 1, 0, 0, 0, 4, NONE);
         due("35 three whole ones, then none", x.read(1, 1, 1, 4), 3);
         due("35 INDEX", x.torn(), 2);
         due("35 they went", x.rule(5), 3);
@@ -1122,7 +1107,7 @@ public final class PromisesTest {
     private void readRefused() {
         WeatherChess x = new WeatherChess();
         x.sheet(0, 2, 6);
-        layTurns(x, 0, 1, 0, 0, 0, 1, 1);
+        Check.lay(x, 0, 1, 0, 0, 0, 1, 1);
         due("35 the third is refused", x.read(0, 2, 0, 3), -22);
         due("35 ahead of what the machine refuses", x.read(0, 2, 0, 4), -22);
         due("35 none goes", x.rule(5), 0);
@@ -1135,13 +1120,13 @@ public final class PromisesTest {
         x.lay(0, 0, 5);
         due("35 no wind", x.read(0, 2, 0, 3), -20);
         x = over();
-        layCalms(x, 2);
+        Ways.calms(x, 2);
         due("35 over", x.read(0, 0, 0, 2), -20);
         due("35 over, of none", x.read(0, 0, 0, 0), 0);
         due("35 over, the machine first", x.read(0, 1, 0, 2), 0);
         x = told("board 2 2;piece king 0 0 9;piece king 1 1 9;piece man 1 3 5;");
         x.sheet(0, 0, 4);
-        layTurns(x, 0, 1, 0, 4, NONE);
+        Check.lay(x, 0, 1, 0, 4, NONE);
         due("35 over on the way", x.read(0, 0, 0, 2), -21);
         due("35 none goes", x.square(1), 1);
         due("35 it is not over", x.rule(6), NONE);
@@ -1159,7 +1144,7 @@ public final class PromisesTest {
         x.read(4, 0, 0, 1);
         due("36 BAD leaves it", x.torn(), 1);
         x.sheet(0, 0, 2);
-        layTurns(x, 0, 1, 1);
+        Check.lay(x, 0, 1, 1);
         x.read(0, 0, 0, 1);
         due("36 one that is refused leaves it", x.torn(), 1);
         x.read(0, 0, 1, 1);

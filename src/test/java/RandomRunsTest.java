@@ -6,6 +6,9 @@ import java.util.Random;
 
 /** Runs of random calls, each answered by the class and by the Oracle. */
 public final class RandomRunsTest {
+    // An object is used for 512 calls at most; one step makes some 70 of them at most, to compare all some 145.
+    private static final int ALL_CALLS = 512, STEP_CALLS = 75, COMPARE_CALLS = 145;
+
     private static final String[] KINDS = {"king", "man", "runner", "sparrow"};
     private static final String[] SCRAPS = {"board", "steeple", "piece", "odds", "turn", "king", "man", "runner",
         "sparrow", ";", "0", "1", "2", "3", "5", "9", "10", "24", "25", "123", "00", "a", "lord", "A", ".", "\0", "\u00e9", "  "};
@@ -15,7 +18,7 @@ public final class RandomRunsTest {
     private final WeatherChess x = new WeatherChess();
     private final Oracle o = new Oracle();
     private final int run;
-    private int last = 0;
+    private int calls = 0;
 
     private RandomRunsTest(int run, Check check) {
         this.run = run;
@@ -24,7 +27,7 @@ public final class RandomRunsTest {
     }
 
     public static void main(String[] args) {
-        int runs = args.length > 0 ? Integer.parseInt(args[0]) : 400;
+        int runs = args.length > 0 ? Integer.parseInt(args[0]) : 2000;
         int from = args.length > 1 ? Integer.parseInt(args[1]) : 0;
         Check check = new Check("RandomRunsTest");
         for (int run = from; run < from + runs; run++) new RandomRunsTest(run, check).play();
@@ -33,16 +36,20 @@ public final class RandomRunsTest {
 
     private void play() {
         if (below(8) > 0) text();
-        for (int i = 0; i < 200; i++) {
-            last = i;
+        int compareAt = below(3) == 0 ? below(200) : ALL_CALLS;
+        while (calls + STEP_CALLS + COMPARE_CALLS <= ALL_CALLS) {
             call();
-            if (i % 10 == 0) compareAll();
+            if (calls < compareAt || calls + STEP_CALLS + 2 * COMPARE_CALLS > ALL_CALLS) continue;
+            compareAll();
+            compareAt = ALL_CALLS;
         }
         compareAll();
+        if (calls > ALL_CALLS) throw new IllegalStateException(calls + " calls of run " + run);
     }
 
     private void due(String call, long got, long want) {
-        check.due("run " + run + " call " + last + " " + call, got, want);
+        calls++;
+        check.due("run " + run + " call " + calls + " " + call, got, want);
     }
 
     private int below(int n) {

@@ -12,8 +12,10 @@ public final class RoomTest {
         WeatherChess x = new WeatherChess();
         long made = bytes() - before;
         check.holds("a new object has " + made + " bytes, below 12000", made < 12000);
+        WeatherChess[] all = new WeatherChess[20];
+        for (int i = 0; i < all.length; i++) all[i] = i == 0 ? x : new WeatherChess();
         before = bytes();
-        for (int i = 0; i < 20; i++) useAll(x);
+        for (WeatherChess one : all) useAll(one);
         long more = bytes() - before;
         // what the machine itself makes while it compiles is not the program's, and is far below a byte a call
         check.holds("the calls made " + more + " bytes, below 1000", more < 1000);

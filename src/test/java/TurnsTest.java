@@ -24,6 +24,7 @@ public final class TurnsTest {
         t.best();
         t.sinceByTurns();
         t.sinceAsNow();
+        t.sinceTaken();
         t.sinceOver();
         t.fitsByTurns();
         t.fitsAsSeen();
@@ -417,6 +418,30 @@ public final class TurnsTest {
         due("nothing is changed", x.rule(5), 0);
     }
 
+    private void sinceTaken() {
+        check.says("to where all PIECES stand now (a PIECE is on a SQUARE, or TAKEN)");
+        WeatherChess x = Check.told("piece king 0 0 9;piece king 1 8 9;piece man 0 3 9;piece man 1 4 9;");
+        x.keep(0);
+        due("the man is TAKEN", x.go(1, 1), 3);
+        x.keep(1);
+        rows("it is TAKEN", x, 1, 1, 101);
+        x.put(2, 3);
+        x.oil(0, 9);
+        x.turn(0);
+        rows("all but the one that is TAKEN stand as they did", x, 0, 0);
+        rows("all but the one that is TAKEN stand as they did", x, 2, 0);
+        x.put(3, 4);
+        rows("all stand as they did", x, 0, 1);
+        rows("all stand as they did", x, 2, 1, 499, 499);
+        x.put(2, 5);
+        x.put(3, 3);
+        x.put(2, 4);
+        x.oil(0, 8);
+        x.turn(1);
+        due("one that is TAKEN in the IMAGE stands now", x.since(1, 0, 0), 0);
+        due("nor is it so by two TURNS", x.since(1, 2, 0), 0);
+    }
+
     private void sinceOver() {
         check.says("(none behind the one by which it is OVER)");
         WeatherChess x = Check.told("piece king 0 0 9;piece king 1 1 9;piece man 0 6 9;");
@@ -480,6 +505,32 @@ public final class TurnsTest {
         x.steeple(4, true);
         x.see(4, NONE);
         due("nobody on a STEEPLE", x.fits(0), 1);
+        x.forget(0);
+        x.see(0, NONE);
+        due("somebody is there", x.fits(0), 0);
+        x.forget(0);
+        due("that is forgotten", x.fits(0), 1);
+        x.see(0, NONE);
+        x.see(1, 0);
+        due("in none", x.fits(0), 0);
+        due("one TURN makes both so", x.fits(1), 1);
+        eachSeen();
+    }
+
+    /** Of eight SEEN each one alone, changed to another SIDE, makes that it is not so. */
+    private void eachSeen() {
+        check.says("behind which all is as SEEN");
+        int[] squares = {0, 1, 2, 3, 4, 5, 6, 7};
+        int[] sides = {0, 1, NONE, 0, NONE, 1, NONE, 0};
+        for (int other = 0; other <= 8; other++) {
+            WeatherChess x = Check.told("piece king 0 0 9;piece king 1 1 9;piece man 0 3 9;piece man 1 5 9;piece man 0 7 9;");
+            for (int i = 0; i < 8; i++) {
+                boolean isOther = i == other;
+                x.see(squares[i], !isOther ? sides[i] : sides[i] == 0 ? NONE : 0);
+            }
+            due("all but " + other, x.fits(0), other == 8 ? 1 : 0);
+            due("all but " + other + ", where", x.where(1, 0), other == 8 ? 2 : 0);
+        }
     }
 
     private void where() {
@@ -546,6 +597,16 @@ public final class TurnsTest {
         x.drop(2);
         x.put(0, 0);
         blown("the other one comes beside it, but can not be TAKEN then", x, NONE);
+        x = Check.told("piece king 0 8 9;piece man 0 6 9;piece king 1 0 9;");
+        for (int n = 1; n <= 3; n++) {
+            x.tell(0);
+            if (n < 3) blown("not by the WINDS that are TOLD", x, NONE);
+        }
+        blown("north three times", x, 0, 0, 0, 0);
+        for (int n = 2; n >= 1; n--) {
+            x.drop(n);
+            blown("not without the last one", x, NONE);
+        }
         due("nothing is changed", x.rule(5), 0);
     }
 
@@ -555,13 +616,13 @@ public final class TurnsTest {
         return (seed * 1103515245L + 12345L) % 4294967296L;
     }
 
-    private static int windOf(long grown, WeatherChess x) {
+    private static int windOf(long grown, int... odds) {
         int all = 0;
-        for (int w = 0; w < 5; w++) all += x.odd(w);
+        for (int v : odds) all += v;
         long rest = grown / 65536 % 32768 % all;
         for (int w = 0; w < 5; w++) {
-            if (rest < x.odd(w)) return w;
-            rest -= x.odd(w);
+            if (rest < odds[w]) return w;
+            rest -= odds[w];
         }
         return BAD;
     }
@@ -578,7 +639,7 @@ public final class TurnsTest {
             for (int seed : SEEDS) {
                 WeatherChess x = Check.told("piece king 0 4 9;piece king 1 0 9;odds " + o[0] + " " + o[1] + " " + o[2] + " " + o[3] + " "
                     + o[4] + ";");
-                int wind = windOf(grown(seed & 0xffffffffL), x);
+                int wind = windOf(grown(seed & 0xffffffffL), o);
                 for (int w = 0; w < 4; w++) {
                     x.put(1, squares[w]);
                     due("seed " + seed + ", is it WIND " + w, x.gale(seed, 1, 1), w == wind ? 1 : NONE);
@@ -598,7 +659,7 @@ public final class TurnsTest {
             for (int n = 1; n <= 60; n++) {
                 if (y.rule(6) == NONE) {
                     grown = grown(grown);
-                    int w = windOf(grown, x);
+                    int w = windOf(grown, 2, 3, 4, 1, 1);
                     y.go(w, y.moves(w) > 0 ? 0 : NONE);
                 }
                 if (n > 4 && n % 8 != 0 && n < 59) continue;

@@ -51,24 +51,23 @@ final class Ways {
         if (x.go(1, 0) != 1) throw new IllegalStateException("king not taken");
     }
 
-    /** 999 TURNS went, so that king 0 can still take king 1 by an east wind. */
+    /** 999 TURNS went; king 0 could still take king 1 by an east wind. */
     static void last(WeatherChess x) {
-        Check.tell(x, "board 3 2;piece king 0 0 9;piece king 1 1 9;");
-        calms(x, 13);
-        for (int i = 0; i < 76; i++) x.read(0, 0, 0, 13);
-        x.read(0, 0, 0, 11);
-        x.turn(0);
-        if (x.rule(5) != 999) throw new IllegalStateException("turns " + x.rule(5));
+        turns(x, 999);
     }
 
-    /** 998 TURNS went. */
+    /** 998 TURNS went; king 0 can take king 1 by an east wind. */
     static void lastButOne(WeatherChess x) {
+        turns(x, 998);
+    }
+
+    /** So many TURNS, by calm; it is SIDE 0's TURN. */
+    private static void turns(WeatherChess x, int turns) {
         Check.tell(x, "board 3 2;piece king 0 0 9;piece king 1 1 9;");
         calms(x, 13);
-        for (int i = 0; i < 76; i++) x.read(0, 0, 0, 13);
-        x.read(0, 0, 0, 10);
+        for (int left = turns; left > 0; left -= 13) x.read(0, 0, 0, Math.min(left, 13));
         x.turn(0);
-        if (x.rule(5) != 998) throw new IllegalStateException("turns " + x.rule(5));
+        if (x.rule(5) != turns) throw new IllegalStateException("turns " + x.rule(5));
     }
 
     /** The king is TAKEN by the 999th TURN. */
