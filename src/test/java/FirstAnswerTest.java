@@ -194,7 +194,7 @@ public final class FirstAnswerTest {
         torn("CAST, refused", laid(Ways::none, 2, 4, 9, 9, 9, 9), 1, 0, 2, 0, 3);
         torn("INDEX ahead of one that would be refused", laid(Ways::none, 2, 4, 9, 9, 9, 9), 2, -1, 2, 0, 2);
         torn("INDEX ahead of one that would be refused", laid(Ways::none, 2, 4, 9, 9, 9, 9), 2, -2, 3, 0, 2);
-        torn("NULL, OVER", over(), 0, 0, 0, 0, 0);
+        torn("of none, OVER", over(), 0, 0, 0, 0, 0);
         torn("CAST, OVER", over(), 1, 0, 1, 0, 3);
         torn("INDEX, OVER", over(), 0, 3, 1, 0, 2);
         torn("INDEX, the 1000th", gone(Ways::last), 0, 39, 1, 0, 2);
@@ -281,6 +281,9 @@ public final class FirstAnswerTest {
             due("south", x.byWind(2, n, 0), x.byWind(2, n, 1));
             due("east ahead of south", x.hope(n), 1);
         }
+        x.weigh(1, 0);
+        for (int n = 1; n < 4; n++) due("east ahead of south, though without ODDS", x.hope(n), 1);
+        x.weigh(1, 1);
         x.put(1, 5);
         for (int n = 1; n < 4; n++) due("south ahead of west", x.hope(n), 2);
         x.put(2, 7);

@@ -472,6 +472,13 @@ public final class TapeTest {
         due("SHEET 1 has its CELLS", x.read(1, 1, 0, 1), 1);
         due("SHEET 2 has none", x.lay(2, 0, 0), -12);
         due("SHEET 3 is nothing", x.lay(3, 0, 0), -11);
+        for (int k = 0; k < 4; k++) {
+            x.sheet(k, k % 3, 2);
+            Check.lay(x, k, 4, NONE);
+        }
+        due("the empty text", x.text(), 0);
+        due("a FAULT", Check.tell(x, "?"), -10);
+        for (int k = 0; k < 4; k++) due("SHEET " + k + " has its CELLS", x.read(k, k % 3, 0, 1), 1);
         x = Twins.gone(Ways::rich);
         x.text();
         due("torn() stays", x.torn(), 1);

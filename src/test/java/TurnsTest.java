@@ -425,6 +425,9 @@ public final class TurnsTest {
         due("the man is TAKEN", x.go(1, 1), 3);
         x.keep(1);
         rows("it is TAKEN", x, 1, 1, 101);
+        x.oil(3, 8);
+        rows("OIL of the one that is TAKEN is not as now", x, 1, 0);
+        x.oil(3, 9);
         x.put(2, 3);
         x.oil(0, 9);
         x.turn(0);
